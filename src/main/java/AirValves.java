@@ -96,7 +96,7 @@ public final class AirValves {
         }
         now.startAnew();
         memory.forgetAll();
-        Arrays.fill(saved, false);
+        emptySlots();
         int leftOut = 0;
         text.readStart();
         for (int i = 0; i < MOST_SIGNS && text.hasMore(); i++) {
@@ -437,6 +437,12 @@ public final class AirValves {
         }
     }
 
+    private void emptySlots() {
+        for (int slot = 0; slot < SLOTS; slot++) {
+            saved[slot] = false;
+        }
+    }
+
     private static long withoutGroups(long script, int groups) {
         long rest = script;
         for (int i = 0; i < groups; i++) {
@@ -671,7 +677,7 @@ public final class AirValves {
                 case WALL_JET:
                     return supplyLeg(v, turnWallJet(v));
                 case MEETING:
-                    return putLegs(v, lesser, lesser == 0 ? greater : 0);
+                    return putLegs(endOf(v, 0), lesser, lesser == 0 ? greater : 0);
                 default:
                     return supplyLeg(v, greater >= BOOSTED_FROM ? 0 : 1);
             }
@@ -689,11 +695,11 @@ public final class AirValves {
         }
 
         private boolean supplyLeg(int v, int leg) {
-            return leg == 0 ? putLegs(v, supplies[v], 0) : putLegs(v, 0, supplies[v]);
+            int end = endOf(v, 0);
+            return leg == 0 ? putLegs(end, supplies[v], 0) : putLegs(end, 0, supplies[v]);
         }
 
-        private boolean putLegs(int v, int first, int second) {
-            int end = endOf(v, 0);
+        private boolean putLegs(int end, int first, int second) {
             boolean changed = legs[end] != first || legs[end + 1] != second;
             legs[end] = first;
             legs[end + 1] = second;
