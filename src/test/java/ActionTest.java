@@ -26,6 +26,7 @@ public final class ActionTest {
         undo();
         undoOfEach();
         undoForgetsTheOldest();
+        undoOfAFullNet();
         Check.end("ActionTest");
     }
 
@@ -476,5 +477,39 @@ public final class ActionTest {
         }
         Check.due("undo() of a new row", x.undo(), 7);
         Check.due("the supply in a new row", x.valveOf(0, 1), 56);
+    }
+
+    /** The last valve and the last duct come back too. */
+    private static void undoOfAFullNet() {
+        AirValves x = new AirValves();
+        for (int v = 0; v < 10; v++) {
+            x.valve(v == 9 ? 2 : 0, 50 + v);
+        }
+        for (int d = 0; d < 16; d++) {
+            x.duct(8, 0, 9, 0, 1 + d % 6);
+        }
+        Check.due("ticks(1) of ten valves", x.ticks(1), 10);
+        x.press(8, true);
+        Check.due("ticks(2) of ten valves", x.ticks(2), 4);
+        x.save(0);
+        x.press(8, false);
+        x.remove(15);
+        x.ticks(20);
+        x.undo();
+        x.undo();
+        fullNet("behind undo", x);
+        x.ticks(20);
+        x.restore(0);
+        fullNet("behind restore", x);
+    }
+
+    private static void fullNet(String what, AirValves x) {
+        Check.due(what + ": leg(8, 0)", x.leg(8, 0), 58);
+        Check.due(what + ": leg(9, 1)", x.leg(9, 1), 59);
+        Check.due(what + ": push(9, 0, 0)", x.push(9, 0, 0), 56);
+        Check.due(what + ": valveOf(9, 2)", x.valveOf(9, 2), 1);
+        Check.due(what + ": about(6)", x.about(6), 1);
+        Check.due(what + ": ductOf(15, 4)", x.ductOf(15, 4), 4);
+        Check.due(what + ": ductOf(12, 6)", x.ductOf(12, 6), 56);
     }
 }

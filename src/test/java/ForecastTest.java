@@ -14,6 +14,7 @@ public final class ForecastTest {
         beatByHistory();
         beatRefuses();
         rule();
+        ruleByTheLeast();
         ruleFromNowOn();
         ruleAtRest();
         ruleRefuses();
@@ -23,6 +24,7 @@ public final class ForecastTest {
         suspectRefuses();
         tightest();
         tightestOfHopeless();
+        tightestOfTheLeast();
         nothingChanges();
         Check.end("ForecastTest");
     }
@@ -81,6 +83,8 @@ public final class ForecastTest {
         AirValves silent = new AirValves();
         silent.valve(3, 20);
         Check.due("restIn() of a meeting without air", silent.restIn(), 0);
+        silent.duct(0, 1, 0, 1, 6);
+        Check.due("restIn() with a duct without air", silent.restIn(), 0);
         AirValves wall = pushedByKeys(2);
         wall.press(0, true);
         wall.ticks(30);
@@ -181,8 +185,49 @@ public final class ForecastTest {
     private static void beatByHistory() {
         byHistory("a pulse that fades", ForecastTest::fading, 2, 220);
         byHistory("a jet by itself", ForecastTest::beating, 3, 20);
+        byHistory("a long ring", ForecastTest::ring, 0, 130);
+        byHistory("a beat by a pressure of 1", ForecastTest::least, 2, 4);
+        beatOfTheRing();
+        Check.due("the beat by a pressure of 1", least().beat(2), 4);
         byHistory("two loops", ForecastTest::twoLoops, 0, 60);
         byHistory("two loops, the other jet", ForecastTest::twoLoops, 1, 60);
+    }
+
+    /** The leg 0 of the first jet gets air in the ticks 1, 67, 187, 307, 427. */
+    private static void beatOfTheRing() {
+        int[] starts = {6, 7, 86, 87};
+        int[] due = {NONE, 120, 120, NONE};
+        for (int i = 0; i < starts.length; i++) {
+            AirValves x = ring();
+            x.ticks(starts[i]);
+            Check.due("the beat of a long ring behind " + starts[i], x.beat(0), due[i]);
+        }
+    }
+
+    /** Ten jets, each pushes the next one in 6 ticks; the last one turns it round: 60 ticks on, 60 off. */
+    private static AirValves ring() {
+        AirValves x = new AirValves();
+        for (int v = 0; v < 10; v++) {
+            x.valve(1, 99);
+        }
+        for (int v = 0; v < 10; v++) {
+            x.duct(v, v == 9 ? 0 : 1, (v + 1) % 10, 0, 6);
+        }
+        return x;
+    }
+
+    /** A jet that beats gives a meeting 1 at times, and the key 1 gives it always some: its leg 0 has 1. */
+    private static AirValves least() {
+        AirValves x = new AirValves();
+        x.valve(1, 30);
+        x.valve(0, 20);
+        x.valve(3, 10);
+        x.duct(0, 0, 0, 0, 2);
+        x.duct(0, 0, 2, 0, 1);
+        x.duct(1, 1, 2, 1, 1);
+        x.set(0, 0);
+        x.leak(1, 29);
+        return x;
     }
 
     /** Two jets that push each other and themselves, by ducts of several lengths. */
@@ -237,6 +282,20 @@ public final class ForecastTest {
         x.feed(0, 50);
         x.feed(2, 99);
         Check.due("rule with a leak that is too great", x.rule(0, 1, 2), 3);
+    }
+
+    /** A key of 10 gives a meeting 1, the other one 11: the leg 0 has 1 if both are pressed. */
+    private static void ruleByTheLeast() {
+        AirValves x = new AirValves();
+        x.valve(0, 10);
+        x.valve(0, 20);
+        x.valve(3, 50);
+        x.set(0, 9);
+        x.duct(0, 0, 2, 0, 1);
+        x.duct(1, 0, 2, 1, 1);
+        Check.due("rule by a pressure of 1", x.rule(0, 1, 2), 8);
+        x.leak(0, 1);
+        Check.due("rule by a pressure of 0", x.rule(0, 1, 2), 0);
     }
 
     /** A jet at a wall that sticks to the leg 1 now. */
@@ -367,6 +426,28 @@ public final class ForecastTest {
         Check.due("suspect of 1", x.suspect(3, 1), NONE);
         Check.due("suspect of 200", x.suspect(3, 200), NONE);
         suspectByALeakAlone();
+        suspectByTheLeastLeak();
+    }
+
+    /** A pulse of 30 in a loop pushes a jet for more than 100 ticks by a leak of 1, and not by more. */
+    private static void suspectByTheLeastLeak() {
+        AirValves x = new AirValves();
+        x.set(0, 0);
+        x.valve(0, 30);
+        x.valve(3, 10);
+        x.valve(1, 10);
+        x.duct(0, 0, 1, 1, 1);
+        x.duct(1, 1, 1, 0, 6);
+        x.duct(1, 1, 2, 1, 1);
+        x.press(0, true);
+        x.ticks(1);
+        x.press(0, false);
+        x.ticks(1);
+        x.remove(0);
+        Check.due("the beat by a leak of 1", x.ifLeak(0, 1, 2), 6);
+        Check.due("the beat by a leak of 2", x.ifLeak(0, 2, 2), NONE);
+        x.leak(1, 1);
+        Check.due("suspect by the least leak", x.suspect(2, 6), 0);
     }
 
     /** A leak of 0 does not count: only without any leak does this one beat; and one of 30 does. */
@@ -430,6 +511,30 @@ public final class ForecastTest {
         x.press(0, false);
         x.ticks(1);
         Check.due("tightest() of those with air", x.tightest(), 1);
+    }
+
+    /** A meeting has 1 in its leg 1: 98 too little for the first duct, hopeless for the second. */
+    private static void tightestOfTheLeast() {
+        AirValves x = new AirValves();
+        x.valve(0, 10);
+        x.valve(3, 50);
+        x.valve(1, 99);
+        x.set(0, 9);
+        x.set(1, 90);
+        x.duct(0, 1, 1, 0, 1);
+        x.duct(1, 1, 2, 0, 1);
+        x.duct(1, 1, 2, 0, 1);
+        x.ticks(2);
+        Check.due("the meeting has 1", x.leg(1, 1), 1);
+        Check.due("the legs with air", x.about(3), 3);
+        Check.due("99 is just enough", x.ductOf(1, 7), 99);
+        Check.due("tightest() of 10 - 54, and of 1 - 99 twice", x.tightest(), 1);
+        x.leak(2, 1);
+        Check.due("tightest() of 1 - 99, and of one that is hopeless", x.tightest(), 2);
+        x.remove(2);
+        x.remove(0);
+        x.valve(0, 20);
+        Check.due("tightest() by a leg of 1 alone", x.tightest(), 0);
     }
 
     /** Ducts by which 99 is not enough count as -99, whatever the leg has. */

@@ -216,6 +216,16 @@ public final class ReadingTest {
         least.valve(1, 10);
         least.set(1, 5);
         Check.due("a pressure of 0 never works", least.push(0, 0, 1), 0);
+        least.valve(0, 10);
+        least.duct(1, 1, 0, 0, 1);
+        least.set(0, 9);
+        least.ticks(2);
+        Check.due("a pressure of 1", least.push(0, 0, 0), 1);
+        Check.due("a pressure of 1 works", least.push(0, 0, 1), 1);
+        least.set(1, 10);
+        Check.due("a pressure of 1 just works", least.push(0, 0, 1), 1);
+        least.set(1, 11);
+        Check.due("a pressure of 1 does not work", least.push(0, 0, 1), 0);
     }
 
     private static void ductOf() {
@@ -267,6 +277,10 @@ public final class ReadingTest {
         Check.due("99 is not nearly enough", x.ductOf(1, 7), AirValves.NONE);
         x.feed(1, 10);
         Check.due("enough by the new supply", x.ductOf(1, 7), 9 + 54 + 30);
+        x.feed(1, 91);
+        x.set(1, 11);
+        x.set(0, 0);
+        Check.due("10.01 has to be 11", x.ductOf(1, 7), 11 + 30);
     }
 
     private static void setting() {

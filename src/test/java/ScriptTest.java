@@ -85,6 +85,8 @@ public final class ScriptTest {
         script(3, 200000_100001_600001L, 2);
         script(3, 200000_100001_601080L, NONE);
         script(3, 200000_900000_900001L, 2);
+        script(3, 200000_201000_900001L, NONE);
+        script(3, 200000_201000_900000L, 2);
         script(3, 600099_100001_800000L, 0);
         script(3, 600001_600099_600099L, 1);
         script(3, 400099_100001_600099L, NONE);
@@ -100,6 +102,24 @@ public final class ScriptTest {
         script(2, 800000, 0);
         script(3, 100001_800000L, 0);
         Check.due("rest in a net that beats", beating(), 0);
+        manyDucts();
+    }
+
+    /** Sixteen ducts, the one with two digits alone leads to the jet 1. */
+    private static void manyDucts() {
+        AirValves x = new AirValves();
+        x.valve(0, 50);
+        x.valve(1, 50);
+        for (int d = 0; d < 16; d++) {
+            x.duct(0, 1, d == 13 ? 1 : 0, 0, 1);
+        }
+        x.set(1, 50);
+        x.ticks(5);
+        Check.due("a leak of the duct 13", x.runScript(3, 313030_100001_710000L), NONE);
+        Check.due("a leak of the duct 3", x.runScript(3, 303030_100001_710001L), NONE);
+        Check.due("a leak of the duct 12", x.runScript(3, 312030_100001_710001L), NONE);
+        Check.due("a leak of the duct 15", x.runScript(1, 315030), NONE);
+        Check.due("a leak of the duct 16", x.runScript(1, 316030), 0);
     }
 
     private static int beating() {

@@ -10,6 +10,8 @@ public final class TextTest {
         loadLeavesOut();
         loadForgets();
         loadRefuses();
+        loadTellsDigitsApart();
+        loadStartsWithoutAir();
         Check.end("TextTest");
     }
 
@@ -267,5 +269,40 @@ public final class TextTest {
         Check.state(x, "load() of no text", x::load);
         Check.due("undo() behind a refused load", x.undo(), 0);
         Check.due("time", x.about(2), 3);
+    }
+
+    private static void loadTellsDigitsApart() {
+        AirValves x = new AirValves();
+        Check.write(x, "Wv010v120v230d20115d11016l0129");
+        Check.due("load() of two ducts", x.load(), 0);
+        int[][] due = {{2, 0, 1, 1, 5, 0}, {1, 1, 0, 1, 6, 29}};
+        for (int d = 0; d < 2; d++) {
+            for (int what = 0; what < 6; what++) {
+                Check.due("ductOf(" + d + ", " + what + ") behind load", x.ductOf(d, what), due[d][what]);
+            }
+        }
+    }
+
+    /** What stood in the legs, the pushes and the ducts of another net is not in the new one. */
+    private static void loadStartsWithoutAir() {
+        AirValves x = new AirValves();
+        for (int v = 0; v < 10; v++) {
+            x.valve(v % 5, 90);
+            x.duct(v, 0, v / 2, v % 2, 2);
+        }
+        x.ticks(30);
+        x.leak(0, 20);
+        Check.write(x, "Wv240v240d00001v440v040v040v340v340v340v340v340");
+        Check.due("load() without ticks", x.load(), 0);
+        for (int v = 0; v < 10; v++) {
+            for (int side = 0; side <= 1; side++) {
+                Check.due("leg(" + v + ", " + side + ") behind load", x.leg(v, side), 0);
+                Check.due("push(" + v + ", " + side + ") behind load", x.push(v, side, 0), 0);
+            }
+            Check.due("valveOf(" + v + ", 2) behind load", x.valveOf(v, 2), 0);
+        }
+        Check.due("what is in the duct behind load", x.ductOf(0, 6), 0);
+        Check.due("its leak", x.ductOf(0, 5), 0);
+        Check.due("crossings behind load", x.about(6), 0);
     }
 }
