@@ -392,6 +392,8 @@ public final class EdgeReadingTest {
         least(50, 30, 9, 6, 30, 99);
         least(50, 31, 9, 6, 30, NONE);
         least(51, 30, 9, 6, 30, NONE);
+        least(91, 11, 0, 1, 0, 11);
+        least(90, 11, 0, 1, 0, 10);
         least(50, 30, 9, 6, 29, 98);
     }
 

@@ -162,6 +162,9 @@ public final class ForecastTest {
         int[] history = new int[starts + 301];
         AirValves x = made.get();
         for (int tick = 0; tick < history.length; tick++) {
+            if (tick % 100 == 0) {
+                x = later(made, tick);
+            }
             history[tick] = x.leg(v, 0);
             x.ticks(1);
         }
@@ -174,12 +177,16 @@ public final class ForecastTest {
                     rise = tick;
                 }
             }
-            AirValves y = made.get();
-            for (int gone = 0; gone < start; gone += 50) {
-                y.ticks(Math.min(50, start - gone));
-            }
-            Check.due(what + ": beat(" + v + ") behind " + start, y.beat(v), due);
+            Check.due(what + ": beat(" + v + ") behind " + start, later(made, start).beat(v), due);
         }
+    }
+
+    private static AirValves later(Supplier<AirValves> made, int ticks) {
+        AirValves x = made.get();
+        for (int gone = 0; gone < ticks; gone += 50) {
+            x.ticks(Math.min(50, ticks - gone));
+        }
+        return x;
     }
 
     private static void beatByHistory() {

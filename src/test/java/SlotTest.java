@@ -115,9 +115,12 @@ public final class SlotTest {
             AirValves x = net();
             Check.index(x, "save(" + slot + ")", () -> x.save(slot));
             Check.index(x, "restore(" + slot + ")", () -> x.restore(slot));
-            Check.state(x, "restore(0) behind that", () -> x.restore(0));
-            Check.state(x, "restore(1) behind that", () -> x.restore(1));
-            Check.due("what is remembered behind that", Check.undoAll(x), 7);
+            AirValves y = net();
+            Edge.outcome(y, z -> z.save(slot));
+            Edge.outcome(y, z -> z.restore(slot));
+            Check.state(y, "restore(0) behind that", () -> y.restore(0));
+            Check.state(y, "restore(1) behind that", () -> y.restore(1));
+            Check.due("what is remembered behind that", Check.undoAll(y), 7);
         }
     }
 }

@@ -172,7 +172,7 @@ public final class TextTest {
                     boolean whole = place == commands[i].length() - 1;
                     int want = !fine ? length - 1 : whole ? AirValves.NONE : length;
                     Check.due(commands[i].substring(0, place) + " and the sign " + c, x.errorPosition(), want);
-                    if (c % 64 == 63) {
+                    if (c % 32 == 31) {
                         x = new AirValves();
                     }
                 }
