@@ -10,6 +10,7 @@ public final class EdgeActionTest {
         ductRange();
         ductSixteenAndSeventeen();
         ductOrder();
+        ductLeavesTheOthersAsTheyAre();
         removeRange();
         removeFromAFullNetUntilItIsEmpty();
         pressRange();
@@ -123,6 +124,28 @@ public final class EdgeActionTest {
         Edge.index("duct 17 from no leg", Edge::full, x -> x.duct(0, -1, 0, 0, 1));
         Edge.index("duct 17 to no valve", Edge::full, x -> x.duct(0, 0, 10, 0, 1));
         Edge.index("duct 17 to no push", Edge::full, x -> x.duct(0, 0, 0, -1, 1));
+    }
+
+    /** Ducts of each length are full of air when another one is added, and stay so. */
+    private static void ductLeavesTheOthersAsTheyAre() {
+        AirValves x = new AirValves();
+        x.valve(0, 99);
+        for (int d = 0; d < 15; d++) {
+            x.duct(0, 1, 0, 0, 1 + d % 6);
+            x.leak(d, d);
+            x.ticks(7);
+        }
+        x.press(0, true);
+        x.duct(0, 1, 0, 0, 6);
+        for (int tick = 0; tick <= 6; tick++) {
+            for (int d = 0; d < 15; d++) {
+                int length = 1 + d % 6;
+                Check.due("out of the duct " + d + " behind " + tick, x.ductOf(d, 6),
+                        tick < length ? 99 - 2 * length - d : 0);
+            }
+            Check.due("out of the new duct behind " + tick, x.ductOf(15, 6), 0);
+            x.ticks(1);
+        }
     }
 
     // ---- promise 14

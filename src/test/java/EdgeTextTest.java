@@ -140,6 +140,12 @@ public final class EdgeTextTest {
         error("W" + "k0".repeat(59) + "W", 119);
         error("w" + "k0".repeat(59) + "k", 0);
         error("W".repeat(120), 1);
+        AirValves x = Edge.fullText();
+        Check.due("errorPosition() ahead of clearText()", x.errorPosition(), NONE);
+        x.clearText();
+        Check.due("errorPosition() behind clearText()", x.errorPosition(), 0);
+        x.append('k');
+        Check.due("errorPosition() of another text", x.errorPosition(), 0);
         Edge.due("errorPosition() of a full net", Edge::fullText, AirValves::errorPosition, NONE);
         Edge.unchanged("errorPosition() of a full net", Edge::fullText, AirValves::errorPosition);
         Edge.unchanged("errorPosition() of no net", () -> richWith("Wv010t00"), AirValves::errorPosition);
