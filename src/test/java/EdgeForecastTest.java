@@ -11,6 +11,7 @@ public final class EdgeForecastTest {
         restInOfEachPart();
         beatRange();
         beatWindow();
+        longestBeat();
         ruleRange();
         ruleBits();
         ruleAtTheLastTick();
@@ -187,6 +188,60 @@ public final class EdgeForecastTest {
             x.ticks(Math.min(99, left));
         }
         return x;
+    }
+
+    /**
+     * Pulses go round in a ring of 14 ticks and in one of 15; where they meet, the valve 9 gets one, and
+     * once more 11 ticks later. So its leg 0 gets air in the ticks 4, 15, 214, 225, 424, 435.
+     */
+    private static AirValves pulsesThatMeet(int ticks) {
+        AirValves x = new AirValves();
+        x.valve(0, 99);
+        for (int v = 1; v <= 9; v++) {
+            x.valve(v == 7 ? 3 : 4, 99);
+        }
+        x.duct(0, 0, 1, 1, 1);
+        x.duct(0, 0, 4, 1, 1);
+        int[] next = {0, 2, 3, 1, 5, 6, 4};
+        int[] length = {0, 6, 6, 2, 6, 6, 3};
+        for (int v = 1; v <= 6; v++) {
+            x.duct(v, 0, next[v], 0, length[v]);
+        }
+        x.duct(1, 0, 7, 0, 1);
+        x.duct(4, 0, 7, 1, 1);
+        x.duct(7, 0, 8, 0, 6);
+        x.duct(7, 0, 9, 0, 1);
+        x.duct(8, 0, 9, 1, 6);
+        x.press(0, true);
+        x.ticks(1);
+        x.press(0, false);
+        for (int left = ticks - 1; left > 0; left -= 99) {
+            x.ticks(Math.min(99, left));
+        }
+        return x;
+    }
+
+    /** The longest one that there can be: from the first one of the 200 ticks to the last one. */
+    private static void longestBeat() {
+        int[] rises = {4, 15, 214, 225, 424, 435};
+        for (int gone = 1; gone <= 230; gone++) {
+            int first = NONE;
+            int due = NONE;
+            for (int rise : rises) {
+                if (rise > gone + 100 && rise <= gone + 300 && due == NONE) {
+                    due = first == NONE ? NONE : rise - first;
+                    first = rise;
+                }
+            }
+            Check.due("beat(9) behind " + gone, pulsesThatMeet(gone).beat(9), due);
+        }
+        Edge.due("the longest beat", () -> pulsesThatMeet(124), x -> x.beat(9), 199);
+        Edge.due("a tick less", () -> pulsesThatMeet(123), x -> x.beat(9), NONE);
+        Edge.due("a tick more", () -> pulsesThatMeet(125), x -> x.beat(9), NONE);
+        Edge.due("ifLeak with the longest beat", () -> pulsesThatMeet(124), x -> x.ifLeak(4, 30, 9), 199);
+        Edge.due("suspect with the longest beat", () -> pulsesThatMeet(124), x -> x.suspect(9, 199), 0);
+        Edge.due("suspect with a longer one", () -> pulsesThatMeet(124), x -> x.suspect(9, 200), NONE);
+        Edge.due("suspect a tick less", () -> pulsesThatMeet(123), x -> x.suspect(9, 199), NONE);
     }
 
     // ---- promise 23
